@@ -89,6 +89,7 @@ public final class LanguageTest {
         holds(type + " has not too many fields", own <= 20);
         for (Method m : type.getDeclaredMethods()) {
             holds(m + " has seven parameters at most", m.getParameterCount() <= 7);
+            holds(m + " has a name of its own", type == WellLocks.class || !publicName(m.getName()));
         }
     }
 
