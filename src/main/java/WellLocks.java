@@ -218,7 +218,8 @@ public final class WellLocks {
 
     public int undo(int n) {
         int before = well.deeds.size;
-        if (n < 0 || n >= before) {
+        // Behind the last deed, or without any, there is nothing from n on: none is undone.
+        if (n < 0 || n > before) {
             return BAD;
         }
         well.deeds.size = n;

@@ -507,7 +507,8 @@ public final class PromisesTest {
 
     private static void promise17() {
         WellLocks x = Check.wellOf("q1205h3c4");
-        due("undo none", x.undo(0), BAD);
+        due("undo none", x.undo(0), 0);
+        due("undo 1 without deeds", x.undo(1), BAD);
         Check.lay(x, 0, 0, 1);
         long start = x.digest();
         x.meet(0);
@@ -515,8 +516,14 @@ public final class PromisesTest {
         long second = x.digest();
         x.day();
         x.meet(0);
-        due("undo 4", x.undo(4), BAD);
+        long fourth = x.digest();
+        due("undo behind the last", x.undo(4), 0);
+        due("undo 5", x.undo(5), BAD);
+        due("undo 40", x.undo(40), BAD);
+        due("undo the greatest", x.undo(Integer.MAX_VALUE), BAD);
+        due("undo the least", x.undo(Integer.MIN_VALUE), BAD);
         due("undo -1", x.undo(-1), BAD);
+        due("nothing changed", x.digest(), fourth);
         due("undo", x.undo(2), 2);
         due("as it was", x.digest(), second);
         due("water", x.count(3), 13);
@@ -524,7 +531,22 @@ public final class PromisesTest {
         due("undo all", x.undo(0), 3);
         due("as at first", x.digest(), start);
         due("meet after all", x.meet(0), 7);
-        due("no houses", new WellLocks().undo(0), BAD);
+        due("no houses", new WellLocks().undo(0), 0);
+        due("no houses, 1", new WellLocks().undo(1), BAD);
+        due("no houses, -1", new WellLocks().undo(-1), BAD);
+        promise17Full();
+    }
+
+    private static void promise17Full() {
+        WellLocks x = Check.wellOf("q1205h3c4");
+        for (int d = 0; d < 40; d++) {
+            x.day();
+        }
+        due("behind all 40", x.undo(40), 0);
+        due("41", x.undo(41), BAD);
+        due("the last", x.undo(39), 1);
+        due("behind all 39", x.undo(39), 0);
+        due("DAY", x.count(1), 39);
     }
 
     private static void promise18() {

@@ -334,7 +334,7 @@ public final class Plain {
     }
 
     public int undo(int n) {
-        if (!within(n, 0, deeds() - 1)) return BAD;
+        if (!within(n, 0, deeds())) return BAD;
         int many = deeds() - n;
         past = new ArrayList<>(past.subList(0, n + 1));
         return many;
