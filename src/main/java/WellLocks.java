@@ -739,6 +739,15 @@ public final class WellLocks {
             }
         }
 
+        /** As many places as there are and the other one takes: how many. */
+        int copyInto(int r, int[] other) {
+            int n = Math.max(0, Math.min(sizeOf(r), other.length));
+            if (hasRun(r, 0, n)) {
+                System.arraycopy(cells[r], 0, other, 0, n);
+            }
+            return n;
+        }
+
         long sumOf(int r) {
             long sum = 0;
             for (int i = 0; i < sizeOf(r); i++) {
@@ -832,10 +841,15 @@ public final class WellLocks {
 
     /** Reads a text into a charter and stops at the first place at which it can't go on. */
     private static final class Reader {
+        // No byte is this number.
+        private static final int END = 256;
+
         private final Shelf texts;
+        // A copy of the text, so that no sign is reached through many calls.
+        private final int[] signs = new int[TEXT_SIZE];
         // Never the well's own one, so that a fault leaves the well as it is.
         private Charter charter = new Charter();
-        private int number;
+        private int size;
         private int place;
 
         Reader(Shelf texts) {
@@ -851,7 +865,7 @@ public final class WellLocks {
 
         /** The fault's place, or NONE; the charter is whole only without a fault. */
         int read(int t) {
-            number = t;
+            size = texts.copyInto(t, signs);
             place = 0;
             charter.clear();
             skipBlanks();
@@ -861,7 +875,7 @@ public final class WellLocks {
             // Every item takes a sign at least, so there are fewer of them than signs.
             for (int item = 0; item <= TEXT_SIZE; item++) {
                 skipBlanks();
-                if (isEnd()) {
+                if (sign() == END) {
                     return charter.houses == 0 ? place : NONE;
                 }
                 if (!readItem()) {
@@ -871,23 +885,19 @@ public final class WellLocks {
             return place;
         }
 
-        private boolean isEnd() {
-            return place >= texts.sizeOf(number);
-        }
-
         private int sign() {
-            return isEnd() ? MISSING : texts.get(number, place);
+            return place >= 0 && place < size && place < signs.length ? signs[place] : END;
         }
 
         private void skipBlanks() {
-            while (place < TEXT_SIZE && !isEnd() && sign() == BLANK) {
+            while (place < size && sign() == BLANK) {
                 place++;
             }
         }
 
         /** The figure that stands here, if it is one from the least to the most; else MISSING. */
         private int figure(int least, int most) {
-            int value = isEnd() ? MISSING : sign() - '0';
+            int value = sign() - '0';
             return value >= least && value <= most ? value : MISSING;
         }
 
@@ -901,7 +911,7 @@ public final class WellLocks {
         }
 
         private boolean readPeace() {
-            if (isEnd() || sign() != 'q') {
+            if (sign() != 'q') {
                 return false;
             }
             place++;

@@ -1,15 +1,21 @@
 /** What the project's tests share: counts wrong answers and sets wells up. */
 public final class Check {
     private static int wrong = 0;
+    private static String sentence = "";
 
     private Check() {
+    }
+
+    /** What the answers that follow are due by. */
+    public static void by(String words) {
+        sentence = words.isEmpty() ? "" : "'" + words + "': ";
     }
 
     public static void due(String what, long got, long want) {
         if (got != want) {
             wrong++;
             if (wrong <= 40) {
-                System.out.println(what + " answered " + got + ", due is " + want);
+                System.out.println(sentence + what + " answered " + got + ", due is " + want);
             }
         }
     }
