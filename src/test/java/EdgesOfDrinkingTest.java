@@ -32,6 +32,8 @@ public final class EdgesOfDrinkingTest {
             drinkIs("q1990h1h1h1h1h1h1h1", 127);
             drinkIs("q7990h1h1h1h1h1h1h1", 127);
             drinkIs("q1990h1h1x01", 1, 2);
+            // 0 with 3 would leave 1 and 2, who have a feud.
+            drinkIs("q1990h1h1h1h1x02x12x13", 3, 12);
             drinkIs("q1990h1h1h1h1h1h1x01x02x03x04x05x12x13x14x15x23x24x25x34x35x45", 1, 2, 4, 8, 16, 32);
             drinkIs("q1990h1h1h1h1h1h1h1x01x02x03x04x05x06x12x13x14x15x16x23x24x25x26x34x35x36x45x46",
                 1, 2, 4, 8, 16, 96);

@@ -18,6 +18,7 @@ public final class EdgesOfKeysTest {
         guessOrder("29", WellLocks::twice);
         guessOrder("30", WellLocks::quorum);
         turns();
+        turnsLater();
         turnsRefused();
         aside();
         Check.end();
@@ -65,6 +66,7 @@ public final class EdgesOfKeysTest {
             Edge.due("two say the same", twiceOf("q3990" + PLAIN, 3, 1, 6, 1), 2);
             Edge.due("two do not fit", twiceOf("q3990" + PLAIN, 3, 1, 12, 1), 0);
             Edge.due("one does, one does not", twiceOf("q3990" + PLAIN, 3, 1, 6, 0), 1);
+            Edge.due("pair by pair", twiceOf("q3990" + PLAIN, 3, 1, 1, 0), 3);
             Edge.due("the same, both ways", twiceOf("q3990" + PLAIN, 3, 1, 3, 0), 0);
         });
         Edge.says("29: no HOUSES", () -> {
@@ -229,6 +231,21 @@ public final class EdgesOfKeysTest {
             turnsAre("q9990" + PLAIN, 0, Edge.NONE);
             turnsAre("q4990h1h1d1d1h1", 1, 0);
             turnsAre("q5990h1h1d1d1h1", 0, Edge.NONE);
+        });
+    }
+
+    private static void turnsLater() {
+        Edge.says("31, 32: by the DAY and the keys as they are, one asked without the other", () -> {
+            WellLocks x = Check.wellOf("q1990c1c1");
+            Edge.due("first, DAY 0", x.first(), 0);
+            x.day();
+            Edge.due("first, DAY 1", x.first(), Edge.NONE);
+            x.day();
+            Edge.due("call, DAY 2", x.call(), 1);
+            x.pledge(0, 1);
+            Edge.due("first, pledged", x.first(), 1);
+            x.day();
+            Edge.due("call, DAY 3", x.call(), 0);
         });
     }
 
