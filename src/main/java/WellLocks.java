@@ -431,7 +431,8 @@ public final class WellLocks {
         int drawn = 0;
         for (int d = 0; d < n; d++) {
             lot = lot * LOT_FACTOR % LOT_MODULUS;
-            int set = (int) (lot / 8 % well.sets());
+            // There are 2, 4, .. 128 sets: modulo these are the last bits, and nothing has to divide.
+            int set = (int) (lot / 8) & (well.sets() - 1);
             if (well.isOpenTo(set)) {
                 drawn += well.perform(meetingRising(set));
             }

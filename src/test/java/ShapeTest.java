@@ -1,7 +1,11 @@
 import com.sun.source.tree.BinaryTree;
 import com.sun.source.tree.ClassTree;
 import com.sun.source.tree.CompilationUnitTree;
+import com.sun.source.tree.CompoundAssignmentTree;
+import com.sun.source.tree.ExpressionTree;
+import com.sun.source.tree.IdentifierTree;
 import com.sun.source.tree.LambdaExpressionTree;
+import com.sun.source.tree.LiteralTree;
 import com.sun.source.tree.MemberReferenceTree;
 import com.sun.source.tree.MethodInvocationTree;
 import com.sun.source.tree.MethodTree;
@@ -12,6 +16,7 @@ import com.sun.source.tree.TypeCastTree;
 import com.sun.source.tree.VariableTree;
 import com.sun.source.util.JavacTask;
 import com.sun.source.util.SourcePositions;
+import com.sun.source.util.TreePath;
 import com.sun.source.util.TreePathScanner;
 import com.sun.source.util.Trees;
 import java.io.IOException;
@@ -22,6 +27,7 @@ import java.util.Map;
 import java.util.Set;
 import java.util.TreeSet;
 import javax.lang.model.element.Element;
+import javax.lang.model.element.VariableElement;
 import javax.lang.model.type.TypeMirror;
 import javax.tools.JavaCompiler;
 import javax.tools.StandardJavaFileManager;
@@ -95,6 +101,8 @@ public final class ShapeTest {
         private final Trees trees;
         private final CompilationUnitTree unit;
         private String method = "fields";
+        private Set<String> dividing = new TreeSet<>();
+        private Set<String> heldAgainstNought = new TreeSet<>();
 
         Scanner(Trees trees, CompilationUnitTree unit) {
             this.trees = trees;
@@ -126,12 +134,42 @@ public final class ShapeTest {
             String outer = method;
             Element self = element();
             method = nameOf(self) + self.asType();
+            dividing = new TreeSet<>();
+            heldAgainstNought = new TreeSet<>();
             calls.putIfAbsent(method, new TreeSet<>());
             holds(method + " is short", lines(tree) <= MOST_LINES);
             holds(method + " has seven parameters at most", tree.getParameters().size() <= 7);
             super.visitMethod(tree, none);
+            for (String divisor : dividing) {
+                holds(method + " looks at " + divisor + " before it divides", heldAgainstNought.contains(divisor));
+            }
             method = outer;
             return null;
+        }
+
+        private boolean isNought(ExpressionTree tree) {
+            return tree instanceof LiteralTree && Integer.valueOf(0).equals(((LiteralTree) tree).getValue());
+        }
+
+        /** A constant other than 0, or a name that the same method holds against 0. */
+        private void divides(ExpressionTree divisor) {
+            Element named = trees.getElement(new TreePath(getCurrentPath(), divisor));
+            Object constant = divisor instanceof LiteralTree ? ((LiteralTree) divisor).getValue()
+                : named instanceof VariableElement ? ((VariableElement) named).getConstantValue() : null;
+            if (constant != null) {
+                holds(method + " divides by " + constant, ((Number) constant).longValue() != 0);
+            } else {
+                holds(method + " divides by a name, " + divisor, divisor instanceof IdentifierTree);
+                dividing.add(divisor.toString());
+            }
+        }
+
+        @Override
+        public Void visitCompoundAssignment(CompoundAssignmentTree tree, Void none) {
+            if (tree.getKind() == Tree.Kind.DIVIDE_ASSIGNMENT || tree.getKind() == Tree.Kind.REMAINDER_ASSIGNMENT) {
+                divides(tree.getExpression());
+            }
+            return super.visitCompoundAssignment(tree, none);
         }
 
         @Override
@@ -168,6 +206,12 @@ public final class ShapeTest {
         public Void visitBinary(BinaryTree tree, Void none) {
             TypeMirror type = trees.getTypeMirror(getCurrentPath());
             holds("texts are not joined by +", !type.toString().equals("java.lang.String"));
+            if (tree.getKind() == Tree.Kind.DIVIDE || tree.getKind() == Tree.Kind.REMAINDER) {
+                divides(tree.getRightOperand());
+            }
+            if (isNought(tree.getRightOperand())) {
+                heldAgainstNought.add(tree.getLeftOperand().toString());
+            }
             return super.visitBinary(tree, none);
         }
 
